@@ -5,6 +5,13 @@ final class Check {
     static final String HEAD = "flight days 5 grows 1 room 9;stop h hall;stop z south;way h z wind 1 loss 1";
     static final String ONE = HEAD + ";umbrella a black strong 1 home h";
 
+    /** Two halls, a strait, a south; five umbrellas, of which four fly. */
+    static final String MAP = "flight days 6 grows 50 room 100;stop h hall;stop k hall;stop s strait;stop z south;"
+        + "way h s wind 4 loss 10;way s z wind 3 loss 20;way h z wind 6 loss 50;way k s wind 2 loss 0;"
+        + "umbrella a black strong 7 home h;umbrella b golf strong 9 home h;umbrella c lady strong 5 home k;"
+        + "umbrella d miser strong 9 home k;umbrella e folding strong 6 home h;"
+        + "flies a 1 s, z;flies b 1 s, z;flies c 2 s, z;flies e 1 z";
+
     private static int wrong = 0;
     private static int looked = 0;
 

@@ -174,6 +174,10 @@ public final class ModelTest {
     }
 
     private static int one(int often, int most) {
+        if (draw.nextInt(60) == 0) {
+            int[] far = {Integer.MIN_VALUE, Integer.MAX_VALUE, -1000000, 1 << 30, 32, 64, 100};
+            return far[draw.nextInt(far.length)];
+        }
         return draw.nextInt(12) == 0 ? draw.nextInt(often + 8) - 4 : draw.nextInt(most + 1);
     }
 

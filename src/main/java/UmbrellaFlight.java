@@ -837,6 +837,10 @@ public final class UmbrellaFlight {
             return sizes.look(DAYS);
         }
 
+        int lastDay() {
+            return days() - 1;
+        }
+
         int stops() {
             return sizes.look(STOPS);
         }
@@ -1229,7 +1233,7 @@ public final class UmbrellaFlight {
                 return blame(AGAIN);
             }
             tokens.step();
-            int day = readDay(0);
+            int day = readWhole(0, into.lastDay());
             int route = day != NONE ? readRoute(into.homes.look(u)) : NONE;
             if (route == NONE) {
                 return false;
@@ -1276,7 +1280,7 @@ public final class UmbrellaFlight {
                 return false;
             }
             tokens.step();
-            int day = readDay(0);
+            int day = readWhole(0, into.lastDay());
             if (day == NONE) {
                 return false;
             }
@@ -1318,8 +1322,8 @@ public final class UmbrellaFlight {
                 return false;
             }
             tokens.step();
-            int first = readDay(0);
-            int last = first != NONE && readWord("to") ? readDay(first) : NONE;
+            int first = readWhole(0, into.lastDay());
+            int last = first != NONE && readWord("to") ? readWhole(first, into.lastDay()) : NONE;
             if (last == NONE) {
                 return false;
             }
@@ -1331,7 +1335,7 @@ public final class UmbrellaFlight {
             if (tokens.sort == Tokens.WHOLE && into.isRainy(tokens.whole)) {
                 return blame(AGAIN);
             }
-            int day = readDay(0);
+            int day = readWhole(0, into.lastDay());
             if (day == NONE) {
                 return false;
             }
@@ -1370,10 +1374,6 @@ public final class UmbrellaFlight {
             }
             tokens.step();
             return whole;
-        }
-
-        private int readDay(int least) {
-            return readWhole(least, into.days() - 1);
         }
 
         private int readHall() {
@@ -1793,7 +1793,10 @@ public final class UmbrellaFlight {
     private static final class Halls {
         private static final int ALL_SETS = 1 << MOST_UMBRELLAS;
 
-        /** For each set of umbrellas: the most rounds into which it can be parted, each umbrella of a round taking the next one's place. */
+        /**
+         * For each set of umbrellas: the most rounds that can be closed within it, a round being some of which
+         * each takes the next one's place.
+         */
         private final Row rounds = new Row(ALL_SETS);
 
         static boolean isWet(Flight told, Plan now, int o, int day) {
