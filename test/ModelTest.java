@@ -44,8 +44,10 @@ public final class ModelTest {
         List<String> halls = new ArrayList<>();
         List<String> stops = new ArrayList<>();
         int count = 2 + upTo(6) + (wild && draw.nextInt(4) == 0 ? 2 : 0);
+        int aHall = draw.nextInt(count);
+        int aSouth = draw.nextInt(count);
         for (int i = 0; i < count; i++) {
-            String sort = i == 0 ? "hall" : i == count - 1 ? "south" : oneOf("hall", "strait", "south");
+            String sort = i == aHall ? "hall" : i == aSouth ? "south" : oneOf("hall", "strait", "south");
             String name = newName();
             stops.add(name);
             if (sort.equals("hall")) {

@@ -140,6 +140,19 @@ public final class YearTest {
         Check.fine(x, "flock a", x.flock(0, 1), 1);
     }
 
+    /** The south may be told first: stop 0 is as good as any. */
+    private static void southFirst() {
+        UmbrellaFlight x = Check.told("flight days 3 grows 0 room 9;stop z south;stop h hall;way h z wind 1 loss 0;"
+            + "umbrella a black strong 9 home h;flies a 0 z", 1);
+        Check.fine(x, "arrived at stop 0", x.arrived(), 1);
+        Check.fine(x, "at stop 0", x.at(0, 0), 0);
+        Check.fine(x, "many at stop 0", x.many(0, 2), 1);
+        Check.fine(x, "strongest at stop 0", x.strongest(), 0);
+        Check.fine(x, "could be at stop 0", x.could(0), 1);
+        Check.fine(x, "the home's number", x.umbrella(0, 2), 1);
+        Check.fine(x, "by draws", x.yearBy(0), 1);
+    }
+
     private static void rings() {
         UmbrellaFlight x = Check.told(Check.MAP + ";ring a h 0;ring a s 1;ring c z 3;ring d k 5;ring e s 1;ring a h 1", 5);
         Check.fine(x, "a fallen one is nowhere", x.judge(), 4);
@@ -157,6 +170,7 @@ public final class YearTest {
         year();
         costs();
         ends();
+        southFirst();
         rings();
         Check.end();
     }
