@@ -14,8 +14,26 @@ final class Check {
 
     private static int wrong = 0;
     private static int looked = 0;
+    private static String sentence = "";
+    private static int sentences = 0;
+    private static int lookedAhead = 0;
 
     private Check() {
+    }
+
+    /** What is looked at from here on is due by that sentence of the document. */
+    static void sentence(String words) {
+        endSentence();
+        sentence = words;
+        sentences++;
+        lookedAhead = looked;
+    }
+
+    private static void endSentence() {
+        if (sentences > 0 && looked == lookedAhead) {
+            wrong++;
+            System.out.println("[" + sentence + "] isn't tested");
+        }
     }
 
     static void due(String what, long got, long want) {
@@ -23,7 +41,8 @@ final class Check {
         if (got != want) {
             wrong++;
             if (wrong <= 50) {
-                System.out.println(what + " answered " + got + ", due is " + want);
+                System.out.println((sentence.isEmpty() ? "" : "[" + sentence + "] ") + what + " answered " + got
+                    + ", due is " + want);
             }
         }
     }
@@ -93,8 +112,21 @@ final class Check {
         due("days behind " + text, x.size(0), 0);
     }
 
+    /** As faulty(), the place being told by the text's mark ^, which isn't fed. */
+    static void fault(int fault, String marked) {
+        int place = marked.indexOf('^');
+        faulty(marked.substring(0, place) + marked.substring(place + 1), fault, place);
+    }
+
+    /** A text that has no fault. */
+    static UmbrellaFlight good(String text) {
+        return told(text, text.split("umbrella ", -1).length - 1);
+    }
+
     static void end() {
-        System.out.println(looked + " answers looked at, " + wrong + " wrong");
+        endSentence();
+        System.out.println((sentences == 0 ? "" : sentences + " sentences, ") + looked + " answers looked at, " + wrong
+            + " wrong");
         if (wrong > 0) {
             System.exit(1);
         }

@@ -9,7 +9,14 @@ public final class ModelTest {
         "back", "owner", "out", "to", "rain", "good", "bad", "a", "b", "zz", "tooolong", "waytoolong", "0", "5", "17",
         "999", "1000", "007", ";", ",", ";;", "$", "A", "\n", "\u00e9"};
 
+    /** An object is used for at most so many calls. */
+    private static final int MOST_CALLS = 512;
+
+    /** A text may be fed in 55 calls, and seven more are made with it. */
+    private static final int CALLS_OF_A_TEXT = 62;
+
     private static Random draw;
+    private static int used;
     private static List<String> names;
     private static int days;
 
@@ -159,6 +166,7 @@ public final class ModelTest {
     }
 
     private static void tellBoth(UmbrellaFlight x, Model m, String text) {
+        used += CALLS_OF_A_TEXT;
         Check.feed(x, text);
         String blocks = text + " ".repeat((20 - text.length() % 20) % 20);
         m.tape += blocks.substring(0, Math.min(blocks.length(), 1100 - m.tape.length()));
@@ -181,64 +189,6 @@ public final class ModelTest {
             return far[draw.nextInt(far.length)];
         }
         return draw.nextInt(12) == 0 ? draw.nextInt(often + 8) - 4 : draw.nextInt(most + 1);
-    }
-
-    private static long ask(UmbrellaFlight x, int which, int a, int b, int c) {
-        switch (which) {
-            case 4: return x.fault();
-            case 5: return x.where();
-            case 6: return x.stop(a);
-            case 7: return x.way(a, b, c);
-            case 8: return x.umbrella(a, b);
-            case 9: return x.flies(a, b);
-            case 10: return x.at(a, b);
-            case 11: return x.strength(a, b);
-            case 12: return x.flock(a, b);
-            case 13: return x.falls(a);
-            case 14: return x.arrived();
-            case 15: return x.many(a, b);
-            case 16: return x.wedge();
-            case 17: return x.strongest();
-            case 18: return x.judge();
-            case 19: return x.waysOut(a);
-            case 20: return x.wayOut(a, b, c);
-            case 21: return x.chance(a, b, c == 1);
-            case 22: return x.bestWay(a);
-            case 23: return x.bestDay(a);
-            case 24: return x.bestMany(a);
-            case 25: return x.fits(a);
-            default: return askOn(x, which, a, b, c);
-        }
-    }
-
-    private static long askOn(UmbrellaFlight x, int which, int a, int b, int c) {
-        switch (which) {
-            case 26: return x.could(a);
-            case 27: return x.surely(a);
-            case 28: return x.likeliest(a);
-            case 29: return x.count(a);
-            case 30: return x.countMost(a);
-            case 31: return x.wet(a);
-            case 32: return x.wetDays(a);
-            case 33: return x.pins(a);
-            case 34: return x.spare(a);
-            case 35: return x.handings();
-            case 36: return x.mean(a == 1);
-            case 37: return x.go(a, b == 1);
-            case 38: return x.herd(a, b, c);
-            case 39: return x.mostTaken(a, b);
-            case 40: return x.yearBy(a);
-            case 41: return x.seasons(a, b);
-            case 42: return x.keep(a, b == 1) ? 1 : 0;
-            case 43: return x.send(a, b, c) ? 1 : 0;
-            case 44: return x.mend(a);
-            case 45: return x.undo() ? 1 : 0;
-            case 46: return x.mark();
-            case 47: return x.back(a) ? 1 : 0;
-            case 48: return Check.led(x, a);
-            case 49: return x.size(a);
-            default: return x.trouble();
-        }
     }
 
     private static int[] numbers(int which, Model m) {
@@ -288,6 +238,7 @@ public final class ModelTest {
     private static void run(int seed) {
         draw = new Random(seed);
         days = 5;
+        used = 0;
         UmbrellaFlight x = new UmbrellaFlight();
         Model m = new Model();
         String text = "";
@@ -295,16 +246,17 @@ public final class ModelTest {
             text = text();
             tellBoth(x, m, text);
         }
-        for (int i = 0; i < 200; i++) {
-            if (draw.nextInt(150) == 0) {
+        for (int i = 0; i < 200 && used + 2 <= MOST_CALLS; i++) {
+            if (draw.nextInt(150) == 0 && used + CALLS_OF_A_TEXT + 2 <= MOST_CALLS) {
                 text = text();
                 tellBoth(x, m, text);
             }
+            used += 2;
             int which = draw.nextInt(4) == 0 ? 42 + draw.nextInt(4) : 4 + draw.nextInt(47);
             int[] n = numbers(which, m);
             long want = m.call(which, n[0], n[1], n[2]);
             String call = "seed " + seed + ", call of promise " + which + " with " + n[0] + " " + n[1] + " " + n[2];
-            Check.due(call, ask(x, which, n[0], n[1], n[2]), want);
+            Check.due(call, Calls.ask(x, which, n[0], n[1], n[2]), want);
             Check.due("trouble of " + call, x.trouble(), m.trouble);
         }
     }
