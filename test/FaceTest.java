@@ -6,6 +6,7 @@ import java.nio.charset.StandardCharsets;
 import java.nio.file.Files;
 import java.nio.file.Path;
 import java.util.Arrays;
+import java.util.NoSuchElementException;
 import java.util.Set;
 import java.util.TreeSet;
 import java.util.regex.Pattern;
@@ -41,6 +42,9 @@ public final class FaceTest {
         Set<String> names = new TreeSet<>();
         for (Method m : c.getDeclaredMethods()) {
             if (Modifier.isPublic(m.getModifiers())) {
+                boolean led = m.getName().equals("led");
+                Check.due(m + " tells what it throws", Arrays.equals(m.getExceptionTypes(),
+                    led ? new Class<?>[] {NoSuchElementException.class} : new Class<?>[0]), true);
                 shown.add(shape(m));
                 names.add(m.getName());
             } else {
@@ -48,6 +52,7 @@ public final class FaceTest {
             }
         }
         Check.due("the face: " + shown, shown.equals(new TreeSet<>(Arrays.asList(FACE))), true);
+        Check.due("NONE", UmbrellaFlight.NONE, -1);
         for (Field f : c.getDeclaredFields()) {
             Check.due(f + " is private", Modifier.isPrivate(f.getModifiers()), !f.getName().equals("NONE"));
             Check.due(f + " is no state of the class", !Modifier.isStatic(f.getModifiers())
